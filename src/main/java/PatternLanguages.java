@@ -938,30 +938,35 @@ public final class PatternLanguages {
      * Matches a pattern against a text, from left to right. In a canonical pattern the variables
      * are met in the order X, Y, Z, W, so that trying short words first gives the matches in the
      * order of the document.
+     *
+     * <p>The slack is by how much the text is longer than the pattern must be with the variables
+     * bound so far; it shows early that lengths can't come out even.
      */
     private static final class Matcher {
         private final int[] starts = new int[VARIABLES];
         private final int[] sizes = new int[VARIABLES];
-        /** How many symbols of the text the pattern needs at least from a position on. */
-        private final int[] needs = new int[SYMBOL_LIMIT + 1];
+        private final int[] uses = new int[VARIABLES];
+        private int variables;
         private int leastSize;
-        private int leastTail;
-        private int mostTail;
+        /** How much slack may be left at the pattern's end. */
+        private int spare;
 
         /** After a match, the words of the variables can be asked for. */
         boolean isMatch(Row pattern, Row text, int mode) {
             return isMatchBefore(pattern, text, mode, 0, 0);
         }
 
-        int countAll(Row pattern, Row text, int mode) {
-            prepare(pattern, mode, 0, 0);
-            return count(pattern, 0, text, 0, Integer.MAX_VALUE);
+        /** Whether the pattern matches the text but for a tail with a length of these bounds. */
+        boolean isMatchBefore(Row pattern, Row text, int mode, int leastTail, int mostTail) {
+            int slack = text.size - prepare(pattern, mode) - leastTail;
+            spare = mostTail - leastTail;
+            return canComeOut(slack) && count(pattern, 0, text, 0, slack, 1) > 0;
         }
 
-        /** Whether the pattern matches the text but for a tail with a length of these bounds. */
-        boolean isMatchBefore(Row pattern, Row text, int mode, int newLeastTail, int newMostTail) {
-            prepare(pattern, mode, newLeastTail, newMostTail);
-            return count(pattern, 0, text, 0, 1) > 0;
+        int countAll(Row pattern, Row text, int mode) {
+            int slack = text.size - prepare(pattern, mode);
+            spare = 0;
+            return canComeOut(slack) ? count(pattern, 0, text, 0, slack, Integer.MAX_VALUE) : 0;
         }
 
         void writeImage(int variable, Row text, Row image) {
@@ -974,60 +979,69 @@ public final class PatternLanguages {
             }
         }
 
-        private void prepare(Row pattern, int mode, int newLeastTail, int newMostTail) {
+        /** Forgets all bindings; returns how long a text of the pattern is at least. */
+        private int prepare(Row pattern, int mode) {
             leastSize = mode == ERASING ? 0 : 1;
-            leastTail = newLeastTail;
-            mostTail = newMostTail;
+            variables = 0;
             for (int i = 0; i < VARIABLES; i++) {
                 sizes[i] = UNBOUND;
+                uses[i] = 0;
             }
-            int need = leastTail;
-            for (int i = SYMBOL_LIMIT; i >= 0; i--) {
-                if (i < pattern.size) {
-                    need += pattern.at(i) < FIRST_VARIABLE ? 1 : leastSize;
+            int need = 0;
+            for (int i = 0; i < pattern.size; i++) {
+                int variable = pattern.at(i) - FIRST_VARIABLE;
+                if (isVariable(variable)) {
+                    uses[variable]++;
+                    variables = Math.max(variables, variable + 1);
+                    need += leastSize;
+                } else {
+                    need++;
                 }
-                needs[i] = need;
             }
+            return need;
         }
 
-        private int needFrom(int position) {
-            return position >= 0 && position < needs.length ? needs[position] : leastTail;
+        private boolean canComeOut(int slack) {
+            return slack >= 0 && (variables > 0 || slack <= spare);
         }
 
         /** Counts matches from a position of the pattern on; the limit spares needless ones. */
-        private int count(Row pattern, int position, Row text, int at, int limit) {
-            int left = text.size - at;
-            if (left < needFrom(position)) {
-                return 0;
-            }
+        private int count(Row pattern, int position, Row text, int at, int slack, int limit) {
             if (position >= pattern.size) {
-                return left <= mostTail ? 1 : 0;
+                return slack <= spare ? 1 : 0;
             }
             int code = pattern.at(position);
             int variable = code - FIRST_VARIABLE;
             if (!isVariable(variable)) {
-                return text.at(at) == code ? count(pattern, position + 1, text, at + 1, limit) : 0;
+                boolean isHere = text.at(at) == code;
+                return isHere ? count(pattern, position + 1, text, at + 1, slack, limit) : 0;
             }
             int size = sizes[variable];
             if (size == UNBOUND) {
-                return countBindings(pattern, position, text, at, limit);
+                return countBindings(pattern, position, text, at, slack, limit);
             }
-            boolean repeats = size <= left && isSame(text, starts[variable], at, size);
-            return repeats ? count(pattern, position + 1, text, at + size, limit) : 0;
+            boolean repeats = isSame(text, starts[variable], at, size);
+            return repeats ? count(pattern, position + 1, text, at + size, slack, limit) : 0;
         }
 
         /** With the limit reached, the variable stays bound, so that the match can be read. */
-        private int countBindings(Row pattern, int position, Row text, int at, int limit) {
+        private int countBindings(
+                Row pattern, int position, Row text, int at, int slack, int limit) {
             int variable = pattern.at(position) - FIRST_VARIABLE;
-            if (!isVariable(variable)) {
+            if (!isVariable(variable) || uses[variable] < 1) {
                 return 0;
             }
-            int mostSize = text.size - at - needFrom(position + 1);
+            boolean isLast = variable == variables - 1;
+            int mostMore = slack / uses[variable];
             int found = 0;
             starts[variable] = at;
-            for (int size = leastSize; size <= mostSize && found < limit; size++) {
-                sizes[variable] = size;
-                found += count(pattern, position + 1, text, at + size, limit - found);
+            for (int more = 0; more <= mostMore && found < limit; more++) {
+                int slackLeft = slack - more * uses[variable];
+                if (!isLast || slackLeft <= spare) {
+                    int size = leastSize + more;
+                    sizes[variable] = size;
+                    found += count(pattern, position + 1, text, at + size, slackLeft, limit - found);
+                }
             }
             if (found < limit) {
                 sizes[variable] = UNBOUND;
