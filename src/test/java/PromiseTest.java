@@ -609,7 +609,9 @@ public final class PromiseTest {
         due("aXbYX on ab, erasing", type(x, "ab").match(0, 1), 0);
         due("image X", image(x, 0), "");
         due("image Y", image(x, 1), "");
+        type(x, "bbb").setImage(0);
         due("ab on ab", type(x, "ab").match(1, 0), 0);
+        due("image X stays", image(x, 0), "bbb");
         due("ab on a", type(x, "a").match(1, 0), -6);
         due("XYZW on abababab", type(x, "abababab").match(2, 0), 1);
         due("image X", image(x, 0), "a");
@@ -887,7 +889,13 @@ public final class PromiseTest {
         longest(withSample(2, "ab", "ba"), "X");
         longest(withSample(2, "aab", "bbb"), "XXb");
         longest(withSample(3, "cabcab", "ccabcc"), "cX");
-        PatternLanguages x = withSample(2, "ab", "");
+        PatternLanguages x = withSample(2, "abab", "aaaa");
+        longest(x, "aXaX");
+        longest(x, "aXaX");
+        found(x, 4, 0, "aXaX");
+        type(x, "bb").addWord();
+        longest(x, "XX");
+        x = withSample(2, "ab", "");
         type(x, "ab").setPattern(4);
         due("findOneVariable(4), an empty word", x.findOneVariable(4), -6);
         due("the register stays", pattern(x, 4), "ab");
