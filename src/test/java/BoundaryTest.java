@@ -1917,10 +1917,13 @@ public final class BoundaryTest {
         PatternLanguages x = withSample(2, FIVE_COLUMNS);
         due("findPattern(2, 5, 0), a fifth variable would be needed", x.findPattern(2, 5, 0), -6);
         due("register 2", pattern(x, 2), "X");
-        type(x, "XY").setPattern(3);
-        due("matchCount of XY after the search", type(x, "aaa").matchCount(3, 0), 2);
-        due("matchCount of X after the search", type(x, "aaaaaaaa").matchCount(2, 1), 1);
         found(x, 4, 0, "XYZW");
+        x = withSampleAnd("XY", "");
+        due("findPattern(1, 5, 0), an empty word", x.findPattern(1, 5, 0), -6);
+        due("matchCount of XY after the search", type(x, "aaa").matchCount(0, 0), 2);
+        due("findPattern(1, 5, 0) again", x.findPattern(1, 5, 0), -6);
+        due("match of XY after the search", type(x, "aaa").match(0, 0), 1);
+        due("the image of Y", image(x, 1), "aa");
     }
 
     private static void longest(String want, int letters, String... words) {
@@ -1944,6 +1947,9 @@ public final class BoundaryTest {
         longest("bbbbbX", 2, "bbbbbb");
         longest("aaaaaaX", 2);
         longest("aXbXab", 2, "aabaab", "abbbab");
+        longest("aXXX", 2, "abbb", "aaaa");
+        longest("aXXX", 2, "abbb", "aababab");
+        longest("XXXXXXX", 2, "aaaaaaa", "bbbbbbb");
         PatternLanguages x = withSample(2, "ab");
         x.findOneVariable(0);
         x.findOneVariable(5);
