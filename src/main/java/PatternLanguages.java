@@ -51,7 +51,7 @@ public final class PatternLanguages {
     private final Row input = new Row(INPUT_LIMIT);
     private final Slot[] slots = new Slot[SLOTS];
     private final Matcher matcher = new Matcher();
-    private final Search search = new Search(bench, matcher);
+    private final Search search = new Search();
     /** What was read from the input buffer or an array, or is being built for a register. */
     private final Row draft = new Row(SYMBOL_LIMIT);
     /** Runs through the words of a language. */
@@ -533,7 +533,7 @@ public final class PatternLanguages {
         if (length < 1 || length > LONGEST_FOUND || !isMode(mode)) {
             return BAD_ARGUMENT;
         }
-        if (!search.findBest(length, mode)) {
+        if (!search.findBest(bench, length, mode)) {
             return NONE;
         }
         store(register, search.candidate);
@@ -544,7 +544,7 @@ public final class PatternLanguages {
         if (!isRegister(register)) {
             return NO_SUCH_REGISTER;
         }
-        return search.findLongestOfX() ? store(register, search.candidate) : NONE;
+        return search.findLongestOfX(bench) ? store(register, search.candidate) : NONE;
     }
 
     // Languages
@@ -1065,20 +1065,14 @@ public final class PatternLanguages {
      * is the best one.
      */
     private static final class Search {
-        private final Bench bench;
-        private final Matcher matcher;
+        private final Matcher matcher = new Matcher();
         final Row candidate = new Row(SYMBOL_LIMIT);
         private int length;
         private int variables;
         private int mode;
 
-        Search(Bench bench, Matcher matcher) {
-            this.bench = bench;
-            this.matcher = matcher;
-        }
-
         /** Leaves the best fitting pattern of the length in the candidate. */
-        boolean findBest(int goalLength, int goalMode) {
+        boolean findBest(Bench bench, int goalLength, int goalMode) {
             length = goalLength;
             mode = goalMode;
             candidate.clear();
@@ -1087,7 +1081,7 @@ public final class PatternLanguages {
                 int most = Math.min(places, VARIABLES);
                 for (int count = Math.min(places, 1); count <= most; count++) {
                     variables = count;
-                    if (complete(0, letters, 0)) {
+                    if (complete(bench, 0, letters, 0)) {
                         return true;
                     }
                 }
@@ -1096,14 +1090,15 @@ public final class PatternLanguages {
         }
 
         /** Leaves the best of the longest fitting patterns with X alone in the candidate. */
-        boolean findLongestOfX() {
+        boolean findLongestOfX(Bench bench) {
             variables = 1;
             mode = 0;
             candidate.clear();
             for (int symbols = LONGEST_ONE_VARIABLE; symbols >= 1; symbols--) {
                 length = symbols;
                 for (int letters = symbols - 1; letters >= 0; letters--) {
-                    if (canStretch(letters, symbols - letters) && complete(0, letters, 0)) {
+                    if (canStretch(bench, letters, symbols - letters)
+                            && complete(bench, 0, letters, 0)) {
                         return true;
                     }
                 }
@@ -1112,7 +1107,7 @@ public final class PatternLanguages {
         }
 
         /** Without this look at the lengths, most of the search would be for nothing. */
-        private boolean canStretch(int letters, int places) {
+        private static boolean canStretch(Bench bench, int letters, int places) {
             if (places < 1) {
                 return false;
             }
@@ -1126,9 +1121,9 @@ public final class PatternLanguages {
         }
 
         /** Takes the candidate, of as many symbols as the position tells, to its full length. */
-        private boolean complete(int position, int lettersLeft, int variablesUsed) {
+        private boolean complete(Bench bench, int position, int lettersLeft, int variablesUsed) {
             int places = length - position - lettersLeft;
-            if (!canBegin(lettersLeft, places)) {
+            if (!canBegin(bench, lettersLeft, places)) {
                 return false;
             }
             if (position >= length) {
@@ -1137,16 +1132,17 @@ public final class PatternLanguages {
             int letters = lettersLeft > 0 ? bench.letters : 0;
             for (int letter = 0; letter < letters; letter++) {
                 candidate.add(letter);
-                if (complete(position + 1, lettersLeft - 1, variablesUsed)) {
+                if (complete(bench, position + 1, lettersLeft - 1, variablesUsed)) {
                     return true;
                 }
                 candidate.removeLast();
             }
-            return places > 0 && completeWithVariable(position, lettersLeft, variablesUsed);
+            return places > 0 && completeWithVariable(bench, position, lettersLeft, variablesUsed);
         }
 
         /** An old variable may stand here only if places enough are left for the new ones. */
-        private boolean completeWithVariable(int position, int lettersLeft, int variablesUsed) {
+        private boolean completeWithVariable(
+                Bench bench, int position, int lettersLeft, int variablesUsed) {
             int places = length - position - lettersLeft;
             boolean mayRepeat = places > variables - variablesUsed;
             int lowest = mayRepeat ? 0 : variablesUsed;
@@ -1154,7 +1150,7 @@ public final class PatternLanguages {
             for (int variable = lowest; variable <= highest; variable++) {
                 int used = Math.max(variablesUsed, variable + 1);
                 candidate.add(FIRST_VARIABLE + variable);
-                if (complete(position + 1, lettersLeft, used)) {
+                if (complete(bench, position + 1, lettersLeft, used)) {
                     return true;
                 }
                 candidate.removeLast();
@@ -1163,7 +1159,7 @@ public final class PatternLanguages {
         }
 
         /** Whether each word of the sample can begin with the candidate and leaves what is due. */
-        private boolean canBegin(int lettersLeft, int places) {
+        private boolean canBegin(Bench bench, int lettersLeft, int places) {
             int leastTail = lettersLeft + (mode == ERASING ? 0 : places);
             int mostTail = places > 0 ? SYMBOL_LIMIT : lettersLeft;
             for (int i = 0; i < bench.sampleSize && i < SAMPLE_LIMIT; i++) {

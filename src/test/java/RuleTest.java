@@ -107,6 +107,7 @@ public final class RuleTest {
                 fault("rule 2: " + type.getName() + " is not static");
             }
             checkFields(type);
+            checkConstructors(type);
         }
         if (types.size() > 12) {
             fault("rule 11: " + types.size() + " classes");
@@ -124,6 +125,17 @@ public final class RuleTest {
         }
         if (own > 20) {
             fault("rule 11: " + type.getName() + " has " + own + " fields");
+        }
+    }
+
+    /** All these objects are made while the workbench is: what one is given is a part of it. */
+    private static void checkConstructors(Class<?> type) {
+        for (Constructor<?> c : type.getDeclaredConstructors()) {
+            for (Class<?> parameter : c.getParameterTypes()) {
+                if (!parameter.isPrimitive()) {
+                    fault("rule 12: the constructor of " + type.getName() + " is given a " + parameter.getName());
+                }
+            }
         }
     }
 
